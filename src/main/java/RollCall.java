@@ -198,7 +198,6 @@ public final class RollCall {
 
     public int nodes() {
         int questions = 1;
-        crowds.clear();
         admitCrowd(now.tags.asked());
         crowds.turn();
         for (int bit = 0; bit < NAME_BITS && crowds.size > 0; bit++) {
@@ -348,7 +347,7 @@ public final class RollCall {
 
     // ---- slots
 
-    /** A slot of ask(), step() or split(): those alone are what alone() tells of. */
+    /** A slot of ask(), step() or split(); alone() tells of these, and not of a frame's. */
     private int hearSlot(long speakers) {
         long audible = audibleOf(speakers);
         int heard = kindOfSlot(audible);
@@ -617,6 +616,7 @@ public final class RollCall {
     private static final class Passes {
         int lastFork = NONE;
         int inRow;
+        /** Of no use, and not looked at, without a LAST FORK. */
         long latestName;
 
         boolean wayIsOneAt(int bit) {
@@ -638,7 +638,6 @@ public final class RollCall {
 
         void endRow() {
             lastFork = NONE;
-            latestName = 0;
             inRow = 0;
         }
 
@@ -698,17 +697,15 @@ public final class RollCall {
         }
     }
 
-    /** The crowds of a DESCENT that is only counted: those of one length, and of the next one. */
+    /**
+     * The sets that collide in a DESCENT that is only counted: for rows of one length, and of the
+     * next one. A pile of rows would do too, but would ask each TAG at each of them.
+     */
     private static final class Crowds {
         private final long[] present = new long[MOST_CROWDS];
         private final long[] next = new long[MOST_CROWDS];
         private int nextSize;
         int size;
-
-        void clear() {
-            size = 0;
-            nextSize = 0;
-        }
 
         void admit(long crowd) {
             if (nextSize < MOST_CROWDS) {
@@ -721,6 +718,7 @@ public final class RollCall {
             return i >= 0 && i < size ? present[i] : 0L;
         }
 
+        /** The next ones are the present ones, and there are no next ones yet. */
         void turn() {
             System.arraycopy(next, 0, present, 0, nextSize);
             size = nextSize;
@@ -810,7 +808,7 @@ public final class RollCall {
         }
 
         void guessNext() {
-            int cut = (int) (2.39f * collisions);
+            int cut = (int) (2.39f * (float) collisions);
             guess = Math.max(1, Math.min(LONGEST_FRAME, cut));
         }
 

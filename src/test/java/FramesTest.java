@@ -169,7 +169,12 @@ public final class FramesTest {
         for (int what = 0; what <= 3; what++) {
             DUE.is("21: ahead of any", x.heard(what), 0);
         }
-        x.frame(4);
+        x.frame(1);
+        DUE.is("21: a COLLISION", x.heard(2), 1);
+        x.frames();
+        x.act(0, 0);
+        x.frame(1);
+        DUE.is("21: none in the latest one", x.heard(2), 0);
         x.frame(3);
         DUE.is("21: the latest one alone", x.heard(0), 3);
         DUE.is("21: ALONE", x.heard(1), 0);

@@ -13,6 +13,11 @@ public final class ToldTest {
         imagesStandForThemselves();
         imageOfANewObject();
         latecomersAreForgotten();
+        tagsOfAnImage();
+        pileOfAnImage();
+        countersOfAnImage();
+        framesOfAnImage();
+        rowOfFoundOfAnImage();
         DUE.end();
     }
 
@@ -242,5 +247,112 @@ public final class ToldTest {
         DUE.is("26: it is not WEAK", x.ask(0, 0), 2);
         DUE.is("26: its bits", x.ask(305, 64), 1);
         DUE.is("26: it was found in no frame", x.frame(64), 2);
+    }
+
+    /** TAG 0 is another one in each of two images. */
+    private static void tagsOfAnImage() {
+        RollCall x = new RollCall();
+        x.image(0);
+        x.tag(1, 1, 11);
+        x.image(1);
+        x.again(0);
+        x.tag(2, 2, 22);
+        x.image(2);
+        x.again(1);
+        DUE.is("26: NAME", x.name(0), 305);
+        DUE.is("26: KIND", x.tell(0, 0), 1);
+        DUE.is("26: SEED", x.tell(0, 5), 11);
+        DUE.is("26: its bits", x.verify(305), true);
+        x.again(2);
+        DUE.is("26: NAME", x.name(0), 610);
+        DUE.is("26: KIND", x.tell(0, 0), 2);
+        DUE.is("26: SEED", x.tell(0, 5), 22);
+        DUE.is("26: its bits", x.verify(610), true);
+    }
+
+    private static void pileOfAnImage() {
+        RollCall x = new RollCall();
+        x.tag(1, 1L << 55, 0);
+        x.tag(1, 3L << 54, 0);
+        x.descend();
+        x.step();
+        x.step();
+        x.image(0);
+        DUE.is("26: the row 1", x.step(), 2);
+        DUE.is("26: the row 10", x.step(), 1);
+        DUE.is("26: the row 11", x.step(), 1);
+        x.tag(1, 0, 0);
+        x.descend();
+        x.step();
+        x.step();
+        x.step();
+        x.again(0);
+        DUE.is("26: the pile", x.count(3), 1);
+        DUE.is("26: the row 1 again", x.step(), 2);
+        DUE.is("26: the row 10 again", x.step(), 1);
+        DUE.is("26: who", x.alone(), 0);
+        DUE.is("26: the row 11 again", x.step(), 1);
+        DUE.is("26: over", x.step(), -1);
+    }
+
+    /** SEEDS 3 and 0 draw the counters 1 and 0. */
+    private static void countersOfAnImage() {
+        RollCall x = new RollCall();
+        x.tag(3, 0, 3);
+        x.tag(3, 1, 0);
+        x.begin();
+        x.split();
+        x.image(0);
+        x.split();
+        DUE.is("26: one less", x.tell(0, 4), 0);
+        x.split();
+        DUE.is("26: over", x.count(4), -1);
+        x.again(0);
+        DUE.is("26: counter", x.tell(0, 4), 1);
+        DUE.is("26: counter", x.tell(1, 4), 0);
+        DUE.is("26: the caller's count", x.count(4), 1);
+        DUE.is("26: the SPLIT goes on", x.split(), 1);
+        DUE.is("26: who", x.alone(), 1);
+    }
+
+    /** SEEDS 0, 1, 1, 3, 3 and 7, 7 draw the slots 0, 6, 19 and 44 of 64. */
+    private static void framesOfAnImage() {
+        RollCall x = new RollCall();
+        int[] seeds = {0, 1, 1, 3, 3, 7, 7};
+        for (int i = 0; i < seeds.length; i++) {
+            x.tag(2, i, seeds[i]);
+        }
+        DUE.is("20: one", x.frame(64), 1);
+        x.image(0);
+        x.frames();
+        x.group(-1L, -1L);
+        x.frame(2);
+        DUE.is("21: no COLLISION", x.heard(2), 0);
+        DUE.is("21: guessed", x.heard(3), 1);
+        x.again(0);
+        DUE.is("26: QUIET", x.heard(0), 60);
+        DUE.is("26: ALONE", x.heard(1), 1);
+        DUE.is("26: COLLISION", x.heard(2), 3);
+        DUE.is("26: guessed", x.heard(3), 7);
+        x.group(-1L, 0);
+        DUE.is("26: found in a frame", x.frame(1), 0);
+        DUE.is("26: it is silent", x.heard(0), 1);
+    }
+
+    private static void rowOfFoundOfAnImage() {
+        RollCall x = new RollCall();
+        x.tag(1, 0, 0);
+        x.tag(1, 1, 0);
+        x.image(0);
+        x.pass();
+        x.image(1);
+        x.again(0);
+        x.act(0, 0);
+        x.pass();
+        DUE.is("22: the other", x.found(0), 1);
+        x.again(1);
+        DUE.is("26: the row of FOUND", x.found(0), 0);
+        DUE.is("26: its length", x.count(2), 1);
+        DUE.is("26: how often", x.tell(1, 6), 0);
     }
 }
