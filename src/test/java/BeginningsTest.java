@@ -45,6 +45,13 @@ public final class BeginningsTest {
         DUE.is("23: ALONE", x.cost(1), 3);
         DUE.is("23: COLLISION", x.cost(2), 3);
         DUE.is("12: a question finds nobody", x.count(2), 0);
+        RollCall one = withNumbers(1, 1);
+        for (int bit = 0; bit < 64; bit++) {
+            long other = 305 ^ 1L << (63 - bit);
+            DUE.is("12: alike ahead of bit " + bit, one.ask(other, bit), 1);
+            DUE.is("12: another bit " + bit, one.ask(other, bit + 1), 0);
+            DUE.is("12: another bit " + bit + ", all asked", one.ask(other, 64), 0);
+        }
     }
 
     private static void askOfKinds() {

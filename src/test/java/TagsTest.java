@@ -242,5 +242,12 @@ public final class TagsTest {
         x.tag(1, 2, 0);
         DUE.is("8: a latecomer of the GROUP", x.tell(0, 3), 1);
         DUE.is("8: a latecomer beyond it", x.tell(1, 3), 0);
+        DUE.is("8: another GROUP", x.group(0x100, 0), 1);
+        x.tag(1, 5, 0);
+        DUE.is("8: a latecomer beyond that", x.tell(2, 3), 0);
+        for (int i = 3; i < 40; i++) {
+            x.tag(1, 10 * i, 0);
+        }
+        DUE.is("8: a GROUP of forty", x.group(0, 0), 40);
     }
 }
