@@ -125,9 +125,9 @@ public final class ToldTest {
             x.act(i, 2);
         }
         changeAll(x);
-        String before = told(x);
+        String before = Told.now(x);
         DUE.is("25: image", x.image(3), true);
-        DUE.is("25: it changes nothing", told(x).equals(before), true);
+        DUE.is("25: it changes nothing", Told.now(x).equals(before), true);
         String[] after = new String[2];
         for (int round = 0; round < 2; round++) {
             x.wire(1);
@@ -135,10 +135,10 @@ public final class ToldTest {
             x.act(5, 0);
             x.group(0x100, 0);
             changeAll(x);
-            after[round] = told(x);
+            after[round] = Told.now(x);
             DUE.is("26: something was changed", after[round].equals(before), false);
             DUE.is("26: again", x.again(3), true);
-            DUE.is("26: all is as it was", told(x).equals(before), true);
+            DUE.is("26: all is as it was", Told.now(x).equals(before), true);
         }
         DUE.is("26: and goes on alike", after[0].equals(after[1]), true);
     }
@@ -157,25 +157,6 @@ public final class ToldTest {
         x.frame(9);
         x.frame(7);
         x.ask(305, 64);
-    }
-
-    /** What is told, and what calls would tell that tell of what is hidden. */
-    private static String told(RollCall x) {
-        StringBuilder s = new StringBuilder();
-        for (int tag = 0; tag < 40; tag++) {
-            s.append(x.name(tag)).append(' ');
-            for (int what = 0; what < 7; what++) {
-                s.append(x.tell(tag, what)).append(' ');
-            }
-        }
-        for (int what = 0; what < 5; what++) {
-            s.append(x.fork(what)).append(' ').append(x.heard(what)).append(' ');
-            s.append(x.cost(what)).append(' ').append(x.count(what)).append(' ');
-        }
-        for (int k = 0; k < 200; k++) {
-            s.append(x.found(k)).append(' ');
-        }
-        return s.append(x.alone()).append(' ').append(x.nodes()).toString();
     }
 
     private static void imagesAreFour() {
