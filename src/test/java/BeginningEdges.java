@@ -36,7 +36,8 @@ final class BeginningEdges {
 
             Edge.of("Promise 12", "the first n bits of a number (its highest)", BeginningEdges::theFirstBits)
                 .brokenBy("return hearSlot(now.tags.beginningWith(bits, n));", "return hearSlot(now.tags.beginningWith(bits << (64 - n), n));")
-                .brokenBy("speakers = isOneAt(bits, bit) ? telling : speakers & ~telling;", "speakers = isOneAt(bits, bit) ? telling : speakers;"),
+                .brokenBy("speakers = isOneAt(bits, bit) ? telling : speakers & ~telling;", "speakers = isOneAt(bits, bit) ? telling : speakers;")
+                .brokenBy("bit < n && speakers != 0", "bit < n && speakers != 1"),
             Edge.of("Promise 12", "0 QUIET, 1 ALONE, 2 COLLISION", BeginningEdges::askTells)
                 .brokenBy("QUIET = 0;", "QUIET = 3;"),
             Edge.of("Promise 12", "NONE: n is not 0 .. 64.", BeginningEdges::askOfAnotherLength)
@@ -173,14 +174,14 @@ final class BeginningEdges {
     }
 
     private static void theFirstBits(Due due) {
-        RollCall x = Make.tags(1, 1L << 55, 1);
+        RollCall x = Make.tags(1, 1, 1L << 55);
         due.is("the highest bit is 1", x.ask(Long.MIN_VALUE, 1), 1);
-        due.is("who", x.alone(), 0);
-        due.is("bits behind the first one count for nothing", x.ask(Long.MAX_VALUE, 1), 1);
         due.is("who", x.alone(), 1);
+        due.is("bits behind the first one count for nothing", x.ask(Long.MAX_VALUE, 1), 1);
+        due.is("who", x.alone(), 0);
         due.is("no bit at all", x.ask(-1L, 0), 2);
         due.is("55 bits, ones behind them", x.ask(0x1FF, 55), 1);
-        due.is("who", x.alone(), 1);
+        due.is("who", x.alone(), 0);
         for (int bit = 0; bit < 64; bit++) {
             long other = 305 ^ 1L << (63 - bit);
             due.is("ahead of another bit " + bit, x.ask(other, bit), bit == 0 ? 2 : 1);
