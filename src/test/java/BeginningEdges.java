@@ -19,6 +19,10 @@ final class BeginningEdges {
             Edge.of(HERE, "a pile of such rows, the empty one at first", BeginningEdges::theEmptyRow)
                 .brokenBy("add(0L, 0);", "add(0L, 1);")
                 .brokenBy("add(0L, 0);", "addBoth(0L, 0);"),
+            Edge.of(HERE, "A STEP of it: the topmost one is asked", BeginningEdges::theTopmostRow)
+                .brokenBy("return size > 0 ? rows[size - 1] : 0L;", "return rows[0];")
+                .brokenBy("return size > 0 ? lengths[size - 1] : 0;", "return lengths[0];")
+                .brokenBy("        now.pile.dropTop();\n", ""),
             Edge.of(HERE, "ALONE: that TAG is found", BeginningEdges::stepFinds)
                 .brokenBy("if (heard == ALONE) {\n            now.tally.addFound(now.aloneTag);", "if (heard == ALONE) {\n            now.aloneTag += 0;"),
             Edge.of(HERE, "COLLISION: the row with 1 behind it, then that with 0, come onto the pile", BeginningEdges::twoRowsCome)
@@ -109,6 +113,21 @@ final class BeginningEdges {
         due.is("the empty row: one that begins with 1", x.step(), 1);
         due.is("it", x.alone(), 0);
         due.is("over", x.count(3), 0);
+    }
+
+    /** The pile is 1, 01, 001, 000 from below when the three that begin with 0 have collided. */
+    private static void theTopmostRow(Due due) {
+        RollCall x = Make.tags(1, 1L << 55, 1L << 54, 1L << 53, 0);
+        x.descend();
+        for (int i = 0; i < 3; i++) {
+            due.is("COLLISION " + i, x.step(), 2);
+        }
+        due.is("rows", x.count(3), 4);
+        for (int tag = 3; tag >= 0; tag--) {
+            due.is("the topmost row", x.step(), 1);
+            due.is("who", x.alone(), tag);
+            due.is("rows under it", x.count(3), tag);
+        }
     }
 
     private static void stepFinds(Due due) {

@@ -17,10 +17,17 @@ final class BitEdges {
             Edge.of(HERE, "in 193 slots (one to begin, three for each bit)", BitEdges::slotsOfAPass)
                 .brokenBy("passSlots += 1 + 3 * bitsTold;", "passSlots += 3 * bitsTold;")
                 .brokenBy("passSlots += 1 + 3 * bitsTold;", "passSlots += 1 + 2 * bitsTold;"),
+            Edge.of(HERE, "Bit by bit the TAGS still in tell their bit", BitEdges::whoIsStillIn)
+                .brokenBy("long ones = now.tags.tellingOne(in, bit);\n            long zeros", "long ones = now.tags.tellingOne(now.tags.listening(), bit);\n            long zeros")
+                .brokenBy("long zeros = in & ~ones;", "long zeros = now.tags.listening() & ~ones;"),
             Edge.of(HERE, "if all tell one, that is the way", BitEdges::allTellOne)
                 .brokenBy("boolean wayIsOne = isFork ? now.passes.wayIsOneAt(bit) : ones != 0;", "boolean wayIsOne = now.passes.wayIsOneAt(bit);")
                 .brokenBy("boolean isFork = ones != 0 && zeros != 0;", "boolean isFork = ones != 0;")
                 .brokenBy("boolean isFork = ones != 0 && zeros != 0;", "boolean isFork = zeros != 0;"),
+            Edge.of(HERE, "if some tell 0 and some 1 there is a fork", BitEdges::someTellZeroSomeOne)
+                .brokenBy("boolean isFork = ones != 0 && zeros != 0;", "boolean isFork = Long.bitCount(ones) > 1 && zeros != 0;")
+                .brokenBy("boolean isFork = ones != 0 && zeros != 0;", "boolean isFork = ones != 0 && Long.bitCount(zeros) > 1;")
+                .brokenBy("boolean isFork = ones != 0 && zeros != 0;", "boolean isFork = ones != 0 && zeros != 0 && bit > 0;"),
             Edge.of(HERE, "ahead of the latest pass's LAST FORK the way is that of the NAME found then", BitEdges::aheadOfTheLastFork)
                 .brokenBy("return isOneAt(latestName, bit);", "return true;")
                 .brokenBy("return isOneAt(latestName, bit);", "return false;")
@@ -119,6 +126,32 @@ final class BitEdges {
             x.pass();
             due.is("slots of " + i + " passes", x.cost(3), 193L * i);
         }
+    }
+
+    /** 0 and 3 part at bit 54; at bit 55 the one that is out would tell another bit than the one still in. */
+    private static void whoIsStillIn(Due due) {
+        RollCall x = Make.tags(1, 0, 3);
+        due.is("way 0 at bit 54", x.pass(), 0);
+        due.is("no fork at bit 55", x.fork(0), 54);
+        due.is("way 1 at bit 54", x.pass(), 1);
+        due.is("none at bit 55", x.fork(0), -1);
+    }
+
+    private static void someTellZeroSomeOne(Due due) {
+        for (int bit = 0; bit < 56; bit++) {
+            RollCall x = Make.tags(1, 0, 1L << (55 - bit));
+            due.is("one tells 0, one 1, at bit " + bit, x.pass(), 0);
+            due.is("the fork", x.fork(0), bit);
+            due.is("then 1", x.pass(), 1);
+        }
+        RollCall ones = Make.tags(1, 4, 5, 0);
+        due.is("one tells 0, two 1", ones.pass(), 2);
+        due.is("the fork", ones.fork(0), 53);
+        RollCall zeros = Make.tags(1, 0, 1, 4);
+        zeros.pass();
+        due.is("two tell 0, one 1: the nearer fork first", zeros.fork(0), 55);
+        due.is("then 1 at it", zeros.pass(), 1);
+        due.is("the fork of all three", zeros.fork(0), 53);
     }
 
     private static void allTellOne(Due due) {

@@ -12,10 +12,17 @@ final class CounterEdges {
 
     static List<Edge> all() {
         return List.of(
+            Edge.of(HERE, "BY COUNTERS, for SPLIT and those under it", CounterEdges::whoHasCounters)
+                .brokenBy("(ofKind[SPLIT] | ofKind[SLEEPER]);", "(ofKind[SPLIT] | ofKind[SLEEPER] | ofKind[SLOTTED]);")
+                .brokenBy("(ofKind[SPLIT] | ofKind[SLEEPER]);", "~(ofKind[BIT] | ofKind[1] | ofKind[SLOTTED]);")
+                .brokenBy("(ofKind[SPLIT] | ofKind[SLEEPER]);", "ofKind[SPLIT];"),
             Edge.of(HERE, "the caller's count is 0, and each that LISTENS then has a counter 0 (others have none)", CounterEdges::atItsBegin)
                 .brokenBy("            Arrays.fill(values, 0);\n", "")
                 .brokenBy("            holders = all;\n", "            holders |= all;\n")
                 .brokenBy("            callers = 0;\n", "            callers = Math.max(0, callers);\n"),
+            Edge.of(HERE, "A STEP, one slot", CounterEdges::oneSlot)
+                .brokenBy("int heard = hearSlot(speakers);", "hearSlot(0L);\n        int heard = hearSlot(speakers);")
+                .brokenBy("int heard = hearSlot(speakers);", "int heard = kindOfSlot(speakers);"),
             Edge.of(HERE, "those with counter 0 that LISTEN speak", CounterEdges::whoSpeaks)
                 .brokenBy("isIn(listening & holders, tag) && values[tag] == 0", "isIn(holders, tag) && values[tag] == 0")
                 .brokenBy("isIn(listening & holders, tag) && values[tag] == 0", "isIn(listening, tag) && values[tag] == 0")
@@ -58,6 +65,35 @@ final class CounterEdges {
         for (int tag = 0; tag < counters.length; tag++) {
             due.is("counter of " + tag + " " + where, x.tell(tag, 4), counters[tag]);
         }
+    }
+
+    private static void whoHasCounters(Due due) {
+        for (int wire = 0; wire < 2; wire++) {
+            RollCall x = new RollCall();
+            x.wire(wire);
+            for (int kind = 0; kind < 6; kind++) {
+                Make.addAwake(x, kind, kind, kind == 3 ? ZERO : ONE);
+            }
+            due.is("a SPLIT one and a SLEEPER", x.begin(), 2);
+            isCounters(due, "at its begin", x, -1, -1, -1, 0, 0, -1);
+            due.is("COLLISION", x.split(), 2);
+            isCounters(due, "drawn", x, -1, -1, -1, 0, 1, -1);
+            due.is("ALONE, whatever the others are", x.split(), 1);
+            due.is("who", x.alone(), 3);
+        }
+    }
+
+    private static void oneSlot(Due due) {
+        RollCall x = Make.seeds(3, ONE, ONE);
+        x.begin();
+        int[] tells = {2, 0, 2, 0};
+        for (int i = 0; i < tells.length; i++) {
+            due.is("step " + i, x.split(), tells[i]);
+            due.is("slots", x.cost(4), i + 1);
+        }
+        x.act(0, 0);
+        due.is("ALONE", x.split(), 1);
+        due.is("slots", x.cost(4), 5);
     }
 
     private static void atItsBegin(Due due) {

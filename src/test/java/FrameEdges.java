@@ -9,6 +9,10 @@ final class FrameEdges {
 
     static List<Edge> all() {
         return List.of(
+            Edge.of(HERE, "FRAMES, for SLOTTED and those under it", FrameEdges::whoIsInFrames)
+                .brokenBy("(ofKind[SLOTTED] | ofKind[SPLIT] | ofKind[SLEEPER] | ofKind[WEAK]);", "~ofKind[BIT];")
+                .brokenBy("(ofKind[SLOTTED] | ofKind[SPLIT] | ofKind[SLEEPER] | ofKind[WEAK]);", "(ofKind[SPLIT] | ofKind[SLEEPER] | ofKind[WEAK]);")
+                .brokenBy("(ofKind[SLOTTED] | ofKind[SPLIT] | ofKind[SLEEPER] | ofKind[WEAK]);", "(ofKind[SLOTTED] | ofKind[SPLIT] | ofKind[SLEEPER]);"),
             Edge.of(HERE, "a frame has a length, 1 .. 64", FrameEdges::lengths)
                 .brokenBy("if (length < 1 || length > LONGEST_FRAME) {", "if (length <= 1 || length > LONGEST_FRAME) {")
                 .brokenBy("if (length < 1 || length > LONGEST_FRAME) {", "if (length < 1 || length >= LONGEST_FRAME) {"),
@@ -62,6 +66,18 @@ final class FrameEdges {
     private static void isHeard(Due due, String where, RollCall x, int... heard) {
         for (int what = 0; what < heard.length; what++) {
             due.is("heard(" + what + ") " + where, x.heard(what), heard[what]);
+        }
+    }
+
+    private static void whoIsInFrames(Due due) {
+        RollCall x = new RollCall();
+        for (int kind = 0; kind < 6; kind++) {
+            Make.addAwake(x, kind, kind, inSlot(10 * kind));
+        }
+        due.is("KINDS 2 to 5", x.frame(64), 4);
+        for (int kind = 0; kind < 6; kind++) {
+            due.is("KIND " + kind + " is found", x.tell(kind, 6), kind < 2 ? 0 : 1);
+            due.is("KIND " + kind + " has drawn", x.tell(kind, 5) != inSlot(10 * kind), kind >= 2);
         }
     }
 

@@ -12,11 +12,19 @@ final class TermEdges {
             Edge.of(HERE, "TAGS (at most 40, from 0 on)", TermEdges::atMostForty)
                 .brokenBy("MOST_TAGS = 40", "MOST_TAGS = 41")
                 .brokenBy("MOST_TAGS = 40", "MOST_TAGS = 39"),
+            Edge.of(HERE, "TAGS (at most 40, from 0 on) have a KIND, a NAME of 64 bits, bit 0 the first and highest one, and a SEED.",
+                    TermEdges::whatATagHas)
+                .brokenBy("            kinds[tag] = kind;\n", "")
+                .brokenBy("            names[tag] = name;\n", "")
+                .brokenBy("            seeds[tag] = seed;\n", ""),
             Edge.of(HERE, "a NAME of 64 bits, bit 0 the first and highest one", TermEdges::bitZeroIsTheHighest)
                 .brokenBy("name >>> (NAME_BITS - 1 - bit) & 1", "name >>> bit & 1"),
             Edge.of(HERE, "A NAME's last 8 bits are the SUM of the 56 ahead: a byte, 0 at first", TermEdges::sumOfNothing)
                 .brokenBy("int sum = 0;", "int sum = 255;")
                 .brokenBy("bit < NAME_BITS - SUM_BITS; bit++", "bit < NAME_BITS; bit++"),
+            Edge.of(HERE, "for each of these bits in order", TermEdges::bitsInOrder)
+                .brokenBy("if (fellOut != isOneAt(name, bit)) {", "if (fellOut != isOneAt(name, 55 - bit)) {")
+                .brokenBy("bit < NAME_BITS - SUM_BITS; bit++", "bit < NAME_BITS - SUM_BITS - 1; bit++"),
             Edge.of(HERE, "it is shifted left by one, its lowest bit 0", TermEdges::sumIsShifted)
                 .brokenBy("sum = (sum << 1) & 0xFF;", "sum = (sum << 1 | 1) & 0xFF;"),
             Edge.of(HERE, "if the bit that fell out is not the NAME's bit it becomes exclusive or 49", TermEdges::bitFallsOut)
@@ -94,6 +102,19 @@ final class TermEdges {
         due.is("KIND of a 41st", x.tell(40, 0), -1);
     }
 
+    private static void whatATagHas(Due due) {
+        RollCall x = new RollCall();
+        long[] names = {0x131, 0x262, 0x353, 0x4C4, 0x5F5, 0x6A6};
+        for (int kind = 0; kind < 6; kind++) {
+            x.tag(kind, kind + 1, 1000 - kind);
+        }
+        for (int kind = 0; kind < 6; kind++) {
+            due.is("its KIND", x.tell(kind, 0), kind);
+            due.is("its NAME", x.name(kind), names[kind]);
+            due.is("its SEED", x.tell(kind, 5), 1000 - kind);
+        }
+    }
+
     private static void bitZeroIsTheHighest(Due due) {
         RollCall x = Make.tags(1, 1L << 55, 1);
         due.is("NAME with bit 0", x.name(0) < 0, true);
@@ -111,6 +132,14 @@ final class TermEdges {
         for (int last = 1; last < 256; last++) {
             due.is("isName(" + last + ")", x.isName(last), false);
         }
+    }
+
+    /** A 1 at the last of the 56 bits is not shifted, one at the first of them 55 times. */
+    private static void bitsInOrder(Due due) {
+        RollCall x = Make.tags(1, 1, 1L << 55, 0xA0000000000003L);
+        due.is("the last bit", x.name(0) & 0xFF, 0x31);
+        due.is("the first bit", x.name(1) & 0xFF, 0xBC);
+        due.is("bits that are no mirror's", x.name(2) & 0xFF, 0xC0);
     }
 
     /** 49, then 98, then 196: no bit falls out of the byte. */
